@@ -498,6 +498,7 @@ public final class RelayDesk {
             return isDue(number) || placeOf(number) != NONE;
         }
 
+        /** One that was missing leaves LAST alone: else those behind it could be taken twice. */
         void take(int number) {
             if (isDue(number)) {
                 missAllBefore(number);
