@@ -1,3 +1,5 @@
+import java.util.stream.IntStream;
+
 /** Types characters into a desk as signs and reads what it sends as characters. */
 final class Teleprinter {
     private static final String FIGURES = "0123456789.,-/()?:'+=";
@@ -77,6 +79,11 @@ final class Teleprinter {
 
     private static boolean isWhole(StringBuilder text) {
         return text.length() >= 6 && text.substring(text.length() - 6).equals("\nNNNN\n");
+    }
+
+    /** The signs of all that a channel has to send. */
+    static int[] signsSent(RelayDesk desk, int channel) {
+        return IntStream.range(0, 400).map(i -> desk.send(channel)).takeWhile(s -> s != RelayDesk.NONE).toArray();
     }
 
     static void skip(RelayDesk desk, int channel, int signs) {
