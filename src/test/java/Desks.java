@@ -73,10 +73,20 @@ final class Desks {
         }
     }
 
-    static void askThrice(RelayDesk desk) {
+    /** Channel 1 is closed while it sends something again, something else is asked for, and a message waits. */
+    static void closeInTheMidst(RelayDesk desk) {
         haveSent(desk, 2);
-        desk.rerun(1, 2);
+        Teleprinter.message(desk, 0, "004 1 KILN\n");
         desk.rerun(1, 1);
         desk.rerun(1, 2);
+        Teleprinter.skip(desk, 1, 9);
+        desk.open(1, false);
+    }
+
+    static void askThrice(RelayDesk desk) {
+        haveSent(desk, 3);
+        desk.rerun(1, 2);
+        desk.rerun(1, 3);
+        desk.rerun(1, 1);
     }
 }

@@ -4,7 +4,7 @@
  */
 final class Probes {
     private static final int CHANNELS = 8;
-    private static final int WHOLE_DESK = 8;
+    private static final int WHOLE_DESK = 9;
     static final int COUNT = WHOLE_DESK + 3 * CHANNELS;
     private static final int MOST_CALLS = 280;
     private static final int END_CALLS = 12;
@@ -38,6 +38,7 @@ final class Probes {
             case 5: handInTheClerksTexts(); break;
             case 6: fillTheClerksTexts(); break;
             case 7: askForAll(); break;
+            case 8: countRoomInGroups(); break;
             default: lookAtChannel((probe - WHOLE_DESK) / 3, (probe - WHOLE_DESK) % 3); break;
         }
     }
@@ -108,6 +109,11 @@ final class Probes {
             for (String member : NAMES) {
                 note(() -> desk.group(Teleprinter.indicator(group), Teleprinter.indicator(member)));
             }
+        }
+    }
+
+    private void countRoomInGroups() {
+        for (String group : NAMES) {
             for (int i = 0; i < 5; i++) {
                 int member = 300000 + i;
                 note(() -> desk.group(Teleprinter.indicator(group), member));
@@ -175,9 +181,9 @@ final class Probes {
         }
     }
 
-    /** The first sign tells by what it becomes which shift the channel is in. */
+    /** The first line that is NNNN in LETTERS alone tells which shift the channel is in. */
     private void endWhatIsGathered(int channel) {
-        for (int s : new int[] {1, 27, 28, 13, 13, 13, 13, 27}) {
+        for (int s : new int[] {1, 27, 13, 13, 13, 13, 27, 28, 13, 13, 13, 13, 27}) {
             note(() -> desk.sign(channel, s));
         }
         note(() -> desk.receipt(channel));

@@ -202,7 +202,7 @@ public final class RefusedCallsTest {
     /** "IllegalState: 3 are waiting on that channel (asked before whether it may be)." */
     private static void rerunWhileThreeWait() {
         threeWaiting.refuseState("a fourth", desk -> desk.rerun(1, 1));
-        threeWaiting.refuseState("a number that may not be", desk -> desk.rerun(1, 3));
+        threeWaiting.refuseState("a number that may not be", desk -> desk.rerun(1, 4));
         threeWaiting.refuseArgument("no such channel", desk -> desk.rerun(8, 1));
         threeWaiting.take("another channel", desk -> desk.rerun(3, 1));
     }
@@ -323,6 +323,10 @@ public final class RefusedCallsTest {
             boolean isOpen = channel != 6;
             busy.stayTheSame("open " + channel + " as it is", desk -> desk.open(channel, isOpen));
         }
+        Twins closed = new Twins(check, "closed in the midst of sending", Desks::closeInTheMidst);
+        closed.stayTheSame("closing it again", desk -> desk.open(1, false));
+        closed.stayTheSame("send", desk -> desk.send(1));
+        closed.stayTheSame("cut", RelayDesk::cut);
     }
 
     /** "NONE (and nothing happens) if the channel is closed." */
