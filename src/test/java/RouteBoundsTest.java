@@ -236,21 +236,32 @@ public final class RouteBoundsTest {
         }
     }
 
-    /** "(of any depth)": the others get it all the same. */
+    /** "(of any depth)": chains of each length that 12 allow; the others get it all the same. */
     private static void ofAnyDepth() {
-        for (int length = 1; length <= 10; length++) {
-            RelayDesk desk = new RelayDesk();
-            desk.route(name("KILN"), 1, 1);
-            for (int i = 0; i < length; i++) {
-                desk.group(i, i + 1);
+        for (int length = 1; length <= 12; length++) {
+            for (boolean isUpwards : new boolean[] {true, false}) {
+                boolean hasOther = length <= 11;
+                RelayDesk desk = new RelayDesk();
+                for (int i = 0; i < length; i++) {
+                    int group = isUpwards ? i : length - 1 - i;
+                    desk.group(group, group + 1);
+                }
+                if (hasOther) {
+                    desk.route(name("KILN"), 1, 1);
+                    desk.group(0, name("KILN"));
+                }
+                check.same("nothing behind " + length, channelsOf(desk, "AAAA"), hasOther ? "1" : "");
+                check.same("a case", desk.count(1), 1);
+                check.same("its reason", desk.reason(1), 5);
+                Desks.makeCases(desk, 1);
+                Teleprinter.clerk(desk, 2, "001 1 AAAA");
+                check.same("handed in", desk.resubmit(2), 5);
+                if (length <= 10) {
+                    desk.route(length, 6, 6);
+                    check.same("a route behind " + length, channelsOf(desk, "AAAA"), "16");
+                    check.same("no case more", desk.count(1), 2);
+                }
             }
-            desk.group(0, name("KILN"));
-            check.same("nothing behind " + length, channelsOf(desk, "AAAA"), "1");
-            check.same("a case", desk.count(1), 1);
-            check.same("its reason", desk.reason(1), 5);
-            desk.route(length, 6, 6);
-            check.same("a route behind " + length, channelsOf(desk, "AAAA"), "16");
-            check.same("no case more", desk.count(1), 1);
         }
     }
 
